@@ -363,22 +363,23 @@ public final class LetterCuts {
     private void remember() {
         planKnown = false;
         if (pastCount >= MAX_UNDO) {
-            // The oldest change becomes final; its sheet is written anew.
-            Sheet oldest = past[0];
-            for (int i = 1; i < MAX_UNDO; i++) {
-                past[i - 1] = past[i];
-            }
-            past[MAX_UNDO - 1] = oldest;
-            pastCount = MAX_UNDO - 1;
+            makeOldestFinal();
         }
-        if (pastCount < 0) {
-            return;
-        }
-        Sheet kept = past[pastCount];
+        Sheet kept = pastCount >= 0 && pastCount < MAX_UNDO ? past[pastCount] : null;
         if (kept != null) {
             kept.copyFrom(sheet);
             pastCount++;
         }
+    }
+
+    /** Its sheet comes last then, to be written anew. */
+    private void makeOldestFinal() {
+        Sheet oldest = past[0];
+        for (int i = 1; i < MAX_UNDO; i++) {
+            past[i - 1] = past[i];
+        }
+        past[MAX_UNDO - 1] = oldest;
+        pastCount = MAX_UNDO - 1;
     }
 
     private int letterOrGone(int spot) {
@@ -591,7 +592,7 @@ public final class LetterCuts {
         private int lettersFrom(int spot, int from) {
             int room = width - columnOf(spot);
             int length = 0;
-            while (length < room && canUse(spot + length) && letterAt(spot + length) == messageAt(from + length)) {
+            while (length < room && letterAt(spot + length) == messageAt(from + length) && canUse(spot + length)) {
                 length++;
             }
             return length;

@@ -406,6 +406,14 @@ public final class PromisesTest {
         Due.told(y, "abcd");
         y.least(2);
         due("missing() if no letter can be used", () -> y.missing(), 4);
+        LetterCuts z = full();
+        due("tell of 24 letters that are there", () -> Due.told(z, "a".repeat(24)), 0);
+        due("tell of 24 letters but one", () -> Due.told(z, "a".repeat(23) + "x"), 1);
+        // The cells have a and b, b and c, to w and x, then x: for the last a, all letters must move.
+        LetterCuts w = Due.with("page 8 3;front abcdefgh ijklmnop qrstuvwx;back ihgfedcb qponmlkj -xwvutsr;");
+        due("tell of a message all of whose letters move", () -> Due.told(w, "bcdefghijklmnopqrstuvwxa"), 0);
+        w.snip(0, 23, 1);
+        due("missing() without the last cell", () -> w.missing(), 1);
     }
 
     private static void fewestCuts() {
@@ -487,6 +495,10 @@ public final class PromisesTest {
         plan(w, "abc", new int[] {3, 1, 0, 3});
         plan(w, "aabc", new int[] {1, 0, 4, 1}, new int[] {3, 1, 0, 3});
         plan(w, "abca", new int[] {3, 1, 0, 3}, new int[] {1, 0, 4, 1});
+        LetterCuts u = full();
+        plan(u, "yz", new int[] {2, 1, 46, 2});
+        plan(u, "z", new int[] {1, 1, 47, 1});
+        plan(u, "zy", new int[] {1, 1, 47, 1}, new int[] {1, 1, 46, 1});
         // Fewer cuts come ahead of a longer first strip.
         LetterCuts v = Due.with("page 6 2;front abc--- ab----;back cdef-- ------;");
         plan(v, "abcdef", new int[] {2, 0, 0, 2}, new int[] {4, 1, 0, 4});
@@ -677,6 +689,18 @@ public final class PromisesTest {
         due("the cell is there", () -> x.letter(0, 7), 7);
         LetterCuts y = Due.with("page 8 1;front abcdefgh;");
         due("snip(0, 0, 8)", () -> y.snip(0, 0, 8), 0);
+        LetterCuts z = full();
+        due("snip(0, 7, 2): over the end of the widest row", () -> z.snip(0, 7, 2), STATE);
+        due("snip(0, 1, 8): over the end of the widest row", () -> z.snip(0, 1, 8), STATE);
+        due("snip(0, 47, 2): over the end of the front", () -> z.snip(0, 47, 2), STATE);
+        due("snip(1, 47, 2): over the end of the back", () -> z.snip(1, 47, 2), STATE);
+        due("snip(1, 47, 1)", () -> z.snip(1, 47, 1), 47);
+        due("the front of the last place of the back", () -> z.letter(0, 40), -2);
+        due("snip(0, 0, 8) of the widest row", () -> z.snip(0, 0, 8), 39);
+    }
+
+    private static LetterCuts full() {
+        return Due.with("page 8 6;front " + "aaaaaaaa ".repeat(6) + ";back " + "bbbbbbbb ".repeat(5) + "bbbbbbyz;");
     }
 
     private static void leastSizes() {

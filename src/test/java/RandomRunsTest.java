@@ -174,6 +174,9 @@ public final class RandomRunsTest {
 
     private String setupText() {
         int width = random.nextInt(40) == 0 ? 0 : 1 + random.nextInt(greatestWidth);
+        if (greatestWidth > 8 && random.nextInt(3) == 0) {
+            width = 8;
+        }
         int height = random.nextInt(40) == 0 ? 0 : 1 + random.nextInt(greatestHeight);
         StringBuilder text = new StringBuilder(gap(0) + "page" + gap(0) + number(width) + gap(1) + number(height));
         text.append(gap(0)).append(';');
