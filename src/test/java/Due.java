@@ -4,6 +4,7 @@ import java.util.concurrent.Callable;
 final class Due {
     private static int asked = 0;
     private static int wrong = 0;
+    private static int mostTold = 40;
 
     private Due() {
     }
@@ -24,10 +25,15 @@ final class Due {
         asked++;
         if (!plain(got).equals(plain(want))) {
             wrong++;
-            if (wrong <= 40) {
+            if (wrong <= mostTold) {
                 System.out.println(what + " answered " + got + ", due is " + want);
             }
         }
+    }
+
+    /** Counts only: for tests that are meant to fail. */
+    static void beQuiet() {
+        mostTold = 0;
     }
 
     static int wrong() {

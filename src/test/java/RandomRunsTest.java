@@ -3,6 +3,8 @@ import java.util.Random;
 /** Compares random runs of up to 512 calls, wrong arguments among them, with the naive model. */
 public final class RandomRunsTest {
     private static final int RUNS = 4000;
+    private static final int[] EXTREMES = {Integer.MIN_VALUE, Integer.MAX_VALUE, Integer.MIN_VALUE + 1,
+        Integer.MAX_VALUE - 1, 1 << 16, -(1 << 16), 1 << 30};
 
     private final Random random;
     private final LetterCuts x = new LetterCuts();
@@ -38,6 +40,9 @@ public final class RandomRunsTest {
     }
 
     private int near(int most) {
+        if (random.nextInt(60) == 0) {
+            return EXTREMES[random.nextInt(EXTREMES.length)];
+        }
         return random.nextInt(8) == 0 ? random.nextInt(5) - 2 + (random.nextBoolean() ? most : 0)
                 : random.nextInt(most + 1);
     }
@@ -47,7 +52,7 @@ public final class RandomRunsTest {
     }
 
     private int side() {
-        return random.nextInt(20) == 0 ? random.nextInt(5) - 2 : random.nextInt(2);
+        return random.nextInt(20) == 0 ? near(1) : random.nextInt(2);
     }
 
     private int place() {
