@@ -42,7 +42,8 @@ public final class TermSentencesTest {
         grammar();
         tokens();
         spaces();
-        meaningOfStatements();
+        meaningOfLines();
+        meaningOfNumbers();
         firstErrors();
         syntaxErrors();
         otherErrors();
@@ -292,6 +293,17 @@ public final class TermSentencesTest {
         x.plan("abcde", Asked.cut(2, 0, 8), Asked.cut(3, 1, 4));
         x.snip(1, 6, 1, 15);
         x.fewest(3);
+        // The same with the back's letters on the front, from the first place on, and behind another cut.
+        Asked first = Asked.with("page 8 2;front cde----- ab-d-e-x;back ----abc- --------;");
+        first.plan("abcde", Asked.cut(2, 0, 8), Asked.cut(3, 0, 0));
+        first.plan("xabcde", Asked.cut(1, 0, 15), Asked.cut(2, 0, 8), Asked.cut(3, 0, 0));
+        // The first x is behind the b of ab.
+        Asked second = Asked.with("page 4 2;front x--- x---;back --ab ---b;");
+        second.plan("xab", Asked.cut(1, 0, 4), Asked.cut(2, 1, 2));
+        // The only x is behind the b of ab, so no strip is left.
+        Asked alone = Asked.with("page 4 2;front ab-- a-b-;back --x- ----;");
+        alone.plan("xab", Asked.cut(1, 1, 2), Asked.cut(1, 0, 0), Asked.cut(1, 0, 6));
+        alone.plan("abx", Asked.cut(1, 0, 0), Asked.cut(1, 0, 6), Asked.cut(1, 1, 2));
         Sentences.says("of several the first one, if they are compared cut by cut:");
         Asked y = Asked.with("page 8 1;front -a--a-a-;");
         y.plan("aa", Asked.cut(1, 0, 1), Asked.cut(1, 0, 4));
@@ -368,6 +380,11 @@ public final class TermSentencesTest {
         y.tell("bcdefga", 0);
         y.tell("gfedcba", 0);
         y.tell("bcdefgha", 1);
+        Asked z = Asked.with("page 8 3;front " + "abcdefgh ".repeat(3) + ";");
+        z.tell("hgfedcba".repeat(3), 0);
+        z.tell("hgfedcba".repeat(2) + "hgfedcbb", 1);
+        Asked w = Asked.with("page 8 3;front abcdefgh ijklmnop qrstuvwx;back ihgfedcb qponmlkj -xwvutsr;");
+        w.tell("bcdefghijklmnopqrstuvwxa", 0);
     }
 
     private static void inputBuffer() {
@@ -455,6 +472,9 @@ public final class TermSentencesTest {
         fails("page : 1;", SYNTAX_ERROR, 5);
         Sentences.says("a word is a run of the letters a to z;");
         fails("pages 1 1;", SYNTAX_ERROR, 0);
+        fails("bage 1 1;", SYNTAX_ERROR, 0);
+        fails("page 1 1;eeast 1;", SYNTAX_ERROR, 9);
+        fails("page 1 1;leasl 1;", SYNTAX_ERROR, 9);
         fails("pageS 1 1;", SYNTAX_ERROR, 4);
         fails("Page 1 1;", SYNTAX_ERROR, 0);
         fails("pagE 1 1;", SYNTAX_ERROR, 0);
@@ -517,7 +537,7 @@ public final class TermSentencesTest {
         }
     }
 
-    private static void meaningOfStatements() {
+    private static void meaningOfLines() {
         Sentences.says("The numbers of page are the width and the height.");
         Asked x = Asked.with("page 8 6;");
         x.states(8, 6);
@@ -546,6 +566,10 @@ public final class TermSentencesTest {
         x.letters(0, "--");
         x.setup("page 2 1;front ab;", 2);
         x.letters(1, "--");
+    }
+
+    private static void meaningOfNumbers() {
+        Asked x = new Asked();
         Sentences.says("The numbers of sizes are those of the rows of the front, from the top, then those of the"
                 + " back (1 each without it), twice the height together.");
         x.setup("page 2 3;sizes 1 2 3 4 5 6;", 6);
@@ -563,7 +587,9 @@ public final class TermSentencesTest {
         x.setup("page 1 1;", 1);
         x.state(2, 1);
         Sentences.says("Each statement may occur once.");
-        loads("page 1 1;least 1;sizes 1 1;back a;front a;");
+        for (int i = 0; i < 3; i++) {
+            x.setup("page 1 1;least 1;sizes 1 1;back a;front a;", 1);
+        }
         fails("page 1 1;front a;front a;", SYNTAX_ERROR, 17);
         fails("page 1 1;back a;back a;", SYNTAX_ERROR, 16);
         fails("page 1 1;sizes 1 1;sizes 1 1;", SYNTAX_ERROR, 19);
