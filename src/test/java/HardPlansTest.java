@@ -2,7 +2,7 @@ import java.util.Random;
 
 /**
  * Sheets on which a search cut by cut would not end in a lifetime: letters with many places each, and strips that get
- * in one another's way far behind in the message. The answers follow from how the sheets are made.
+ * in one another's way far behind in the message. The answers follow from how the sheets are made, or are Model's.
  */
 public final class HardPlansTest {
     private HardPlansTest() {
@@ -12,6 +12,7 @@ public final class HardPlansTest {
         strayLetters();
         strayLettersThatAreMissing();
         pairsThatShareCells();
+        dearestSheets();
         oneLetterEverywhere();
         randomSheets();
         Due.finish();
@@ -23,17 +24,24 @@ public final class HardPlansTest {
         LetterCuts x = Due.with("page 8 6;front " + row.repeat(5) + "cd-c-d--;back " + row.repeat(5) + "e-f---ef;");
         // The back's e and f of the places 46 and 47 are behind the c and d of the places 41 and 40.
         Due.same("tell(aaaacdef)", Due.told(x, "aaaacdef"), 0);
-        Due.same("fewest() of aaaacdef", x.fewest(), 7);
-        int[][] want = {{1, 0, 0}, {1, 0, 2}, {1, 0, 4}, {1, 0, 6}, {2, 0, 40}, {1, 1, 40}, {1, 1, 42}};
-        for (int k = 0; k < 7; k++) {
-            for (int what = 0; what < 3; what++) {
-                Due.same("cutOf(" + k + ", " + what + ")", x.cutOf(k, what), want[k][what]);
-            }
-        }
+        plan(x, "aaaacdef", new int[][] {
+            {1, 0, 0}, {1, 0, 2}, {1, 0, 4}, {1, 0, 6}, {2, 0, 40}, {1, 1, 40}, {1, 1, 42}});
         Due.same("copies()", x.copies(), 1);
         for (String message : new String[] {"acadaeaf", "acdaefaa", "cdefaaaa", "aacdaefa"}) {
             Due.told(x, message);
             Due.same("fewest() of " + message, x.fewest(), message.equals("acadaeaf") ? 8 : 7);
+        }
+    }
+
+    /** Letters, side and first place of each cut. */
+    private static void plan(LetterCuts x, String message, int[][] want) {
+        Due.same("fewest() of " + message, x.fewest(), want.length);
+        for (int k = 0; k < want.length; k++) {
+            for (int what = 0; what < 3; what++) {
+                int asked = what;
+                int cut = k;
+                Due.due(message + ", cutOf(" + k + ", " + what + ")", () -> x.cutOf(cut, asked), want[k][what]);
+            }
         }
     }
 
@@ -65,6 +73,24 @@ public final class HardPlansTest {
         Due.same("fewest() of aabbaabb", y.fewest(), 6);
         Due.told(y, "bbbbaaaa");
         Due.same("fewest() of bbbbaaaa", y.fewest(), 8);
+    }
+
+    /**
+     * The dearest sheets that a search by small changes came to: fewer cuts seem to do until nearly all is tried. The
+     * plans are those of Model.
+     */
+    private static void dearestSheets() {
+        String ba = "babababa ";
+        LetterCuts x = Due.with("page 8 6;front " + ba + "bcccabab " + ba.repeat(4) + ";back " + ba + "bababacc "
+                + ba.repeat(4) + ";");
+        Due.same("tell(cbaabbac)", Due.told(x, "cbaabbac"), 0);
+        plan(x, "cbaabbac", new int[][] {{1, 1, 15}, {2, 0, 0}, {2, 0, 3}, {3, 1, 12}});
+        Due.same("copies() of cbaabbac", x.copies(), 1);
+        String ca = "cacacaca ";
+        LetterCuts y = Due.with("page 8 6;front " + ca.repeat(5) + "cacacabc;back " + ca.repeat(5) + "-bbbcbaa;");
+        Due.same("tell(bcaaccab)", Due.told(y, "bcaaccab"), 0);
+        plan(y, "bcaaccab", new int[][] {{1, 1, 45}, {2, 0, 0}, {2, 0, 3}, {3, 0, 44}});
+        Due.same("copies() of bcaaccab", y.copies(), 1);
     }
 
     private static void oneLetterEverywhere() {
